@@ -13,6 +13,7 @@ public final class PromiseTest {
         newObject();
         feed();
         text();
+        textAnew();
         faultsOfTokens();
         faultsOfMuch();
         faultsOfTwiceAndUntold();
@@ -147,6 +148,33 @@ public final class PromiseTest {
         due("digits with 0 ahead", Check.tell(x, "price 0000000000000000000000099;"), 1);
     }
 
+    // Promise 3: nothing of a busy front is left
+    private static void textAnew() {
+        String text = "place a 1 2;place b 2 2 tide 4;chairs 6;come 0 5;sky 2 2;sky 3 0;law stay 9;law dodge 50;";
+        SkyChairs x = told(text);
+        x.put(0, 2);
+        x.put(1, 2);
+        x.route(1, 0);
+        x.ticks(5);
+        due("wet", x.look(0, 2), 1);
+        due("lost", x.sum(5), 2);
+        Check.tell(x, text);
+        for (int chair = 0; chair < 6; chair++) {
+            chair(x, chair, 0, NONE, 0, NONE, 0);
+        }
+        sums(x, 0, 0, 0, 0, 0, 0, 0, 0);
+        for (int place = 0; place < 2; place++) {
+            due("out", x.place(place, 3), 0);
+            due("sat in", x.place(place, 4), 0);
+        }
+        due("carry", x.put(0, 6), 6);
+        due("no route", x.run(96), 0);
+        SkyChairs y = new SkyChairs();
+        Check.tell(y, "law sit 1 + (2 * (");
+        Check.tell(y, "place a 1 1;law sit not 0 or 1;");
+        due("nothing of a faulty law is left", y.law(0, 0), 1);
+    }
+
     // Promise 4, fault 1
     private static void faultsOfTokens() {
         Check.fault(";", 1, 0);
@@ -217,6 +245,10 @@ public final class PromiseTest {
         told("chairs 40;price 99;wage 99;carry 40;wets 9;canvas 99;seed 99999;");
         told("chairs 0;price 0;wage 0;carry 1;wets 1;canvas 0;seed 0;");
         Check.fault("wage 100;", 2, 5);
+        Check.fault("place a 1 1 tide 96;", 2, 17);
+        Check.fault("come 96 1;", 2, 5);
+        Check.fault("come 1 0;", 2, 7);
+        Check.fault("come 1 21;", 2, 7);
         Check.fault("carry 41;", 2, 6);
         Check.fault("wets 0;", 2, 5);
         Check.fault("sky 96 0;", 2, 4);
@@ -245,7 +277,13 @@ public final class PromiseTest {
         Check.fault("band abcdefg 1 1;", 1, 5);
         String all = "law sit 1" + repeat("+1", 31) + ";";
         String more = "law stay not";
-        due("64 knots", told(all + "law stay 1;").count(4), 64);
+        SkyChairs x = told("place a 1 1;" + all + "law stay 7;");
+        due("64 knots", x.count(4), 64);
+        due("the first law of them", x.law(0, 0), 32);
+        due("the last knot", x.law(1, 0), 7);
+        SkyChairs y = told("place a 1 1;law sit " + repeat("not ", 31) + repeat("(", 8) + repeat("not ", 32) + "1"
+                + repeat(")", 8) + ";");
+        due("all that can wait for its right side", y.law(0, 0), 0);
         Check.fault(all + more + " 1;", 2, all.length() + more.length() + 1);
         Check.fault(all + "law stay 1+", 2, all.length() + 10);
         Check.fault(all + "law stay 1)", 1, all.length() + 10);
@@ -430,6 +468,8 @@ public final class PromiseTest {
         value("1 or 1/0", ERROR);
         value("0 and 1/0", ERROR);
         value("1000*1000*1000*1000", 1000000000000L);
+        value("1000*1000*1000*999+1000*1000*1000", 1000000000000L);
+        value("0-1000*1000*1000*999-1000*1000*1000", -1000000000000L);
         value("1000*1000*1000*1000+1", ERROR);
         value("1000*1000*1000*1000+1-1", ERROR);
         value("0-1000*1000*1000*1000", -1000000000000L);
@@ -586,6 +626,11 @@ public final class PromiseTest {
         due("an error", y.law(0, 0), ERROR);
         y.ticks(1);
         due("0 with an error is more than -1", y.place(0, 4), 1);
+        SkyChairs v = told("place a 9 1;place b 5 1;chairs 4;come 0 1;law sit far / (view - 5) * 0;");
+        v.put(0, 1);
+        v.put(1, 1);
+        v.ticks(1);
+        due("0 with an error is no more than 0", v.place(0, 4), 1);
         SkyChairs z = told("place a 1 1;place b 1 1;chairs 4;come 0 3;law sit 0 - taken;");
         z.put(0, 2);
         z.put(1, 2);
@@ -1036,6 +1081,7 @@ public final class PromiseTest {
         due("no tick went by", x.count(8), 1);
         x.ticks(1);
         due("a tick went by", x.undo(), NONE);
+        mixedUndo();
         // A route undone is on its own turn again.
         SkyChairs y = told("place a 5 1;place b 4 1;chairs 2;come 1 1;law stay 1;");
         y.put(0, 1);
@@ -1045,6 +1091,40 @@ public final class PromiseTest {
         due("told anew: b first", y.run(1), 0);
         y.undo();
         due("as ahead: a is second", y.run(1), 2);
+    }
+
+    // Promise 31: more than twenty of all kinds
+    private static void mixedUndo() {
+        SkyChairs x = told("place a 5 1;place b 4 1;place c 3 1;chairs 40;carry 40;");
+        for (int i = 0; i < 9; i++) {
+            x.put(i % 3, 1 + i % 2);
+            x.route(1 + i % 2, i % 3);
+            x.bring(i % 3, 1);
+        }
+        due("twenty of twenty-seven", x.count(8), 20);
+        due("stacked", x.count(9), 36);
+        for (int i = 8; i >= 3; i--) {
+            int left = 3 * (i - 3) + 3;
+            due("undo bring " + i, x.undo(), left + 1);
+            due("out " + i, x.place(i % 3, 3), 1 + i % 2 + outAhead(i));
+            due("undo route " + i, x.undo(), left);
+            due("undo put " + i, x.undo(), left - 1);
+            due("out ahead of " + i, x.place(i % 3, 3), outAhead(i));
+        }
+        due("a bring", x.undo(), 1);
+        due("a route", x.undo(), 0);
+        due("no more", x.undo(), NONE);
+        due("stacked then", x.count(9), 38);
+        due("carry given back", x.put(0, 40), 40 - 6);
+    }
+
+    /** How many are out at its place ahead of turn i: one put twice and brought once leaves one. */
+    private static int outAhead(int i) {
+        int out = 0;
+        for (int k = i - 3; k >= 0; k -= 3) {
+            out += k % 2;
+        }
+        return out;
     }
 
     // Promises 32, 33
