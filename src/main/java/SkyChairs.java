@@ -1419,6 +1419,14 @@ public final class SkyChairs {
                 sums[SUM_LOST]++;
             }
         }
+
+        void loseAll(int place) {
+            for (int chair = 0; chair < chairs; chair++) {
+                if (where[chair] == place) {
+                    lose(chair);
+                }
+            }
+        }
     }
 
     /** Lets ticks go by on a front. */
@@ -1463,9 +1471,9 @@ public final class SkyChairs {
         }
 
         private void letTideCome() {
-            for (int chair = 0; chair < front.chairs; chair++) {
-                if (plan.isFlooded(front.where[chair], front.tick)) {
-                    front.lose(chair);
+            for (int place = 0; place < plan.placeCount; place++) {
+                if (front.out[place] + front.sat[place] > 0 && plan.isFlooded(place, front.tick)) {
+                    front.loseAll(place);
                 }
             }
         }
@@ -1502,10 +1510,11 @@ public final class SkyChairs {
             for (int k = 0; k < comers; k++) {
                 int place = dearestPlace();
                 if (place == NONE) {
-                    front.sums[SUM_WALL]++;
-                } else {
-                    front.seatOne(place, front.tick + stayAt(place));
+                    // Nothing changes for those who come behind.
+                    front.sums[SUM_WALL] += comers - k;
+                    return;
                 }
+                front.seatOne(place, front.tick + stayAt(place));
             }
         }
 
@@ -1546,6 +1555,9 @@ public final class SkyChairs {
         }
 
         private void askAt(int place) {
+            if (!plan.hasPlace(place) || front.sat[place] == 0) {
+                return;
+            }
             long dodge = terms.noDodge ? 0 : valueOf(LAW_DODGE, place);
             for (int chair = 0; chair < front.chairs; chair++) {
                 if (front.status[chair] == SAT && front.where[chair] == place && front.paid[chair] == 0) {

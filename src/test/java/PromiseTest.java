@@ -141,6 +141,12 @@ public final class PromiseTest {
         due("an empty book", x.count(6), 0);
         x.day(1, true);
         due("all known", x.right(0), 1);
+        Check.feed(x, "price 12;");
+        due("cut within a number", x.text(7), NONE);
+        due("at the length", x.fault(1), 7);
+        Check.feed(x, "sign aband;");
+        due("cut within a word", x.text(6), NONE);
+        due("at that length", x.fault(1), 6);
         due("an empty text", Check.tell(x, ""), 0);
         due("blanks alone", Check.tell(x, " \n \n"), 0);
         due("no blanks needed beside digits and marks", Check.tell(x, "place a1 2tide3;law sit(view)+1<2and not far;"), 2);
