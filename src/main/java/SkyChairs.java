@@ -1437,6 +1437,8 @@ public final class SkyChairs {
         private final Front front;
         private final Terms terms;
         private final long[] stack = new long[MAX_KNOTS];
+        // What sitters see in each place that has a chair for them.
+        private final long[] worths = new long[MAX_PLACES];
         Plan plan;
 
         Walk(Front front, Terms terms) {
@@ -1507,6 +1509,9 @@ public final class SkyChairs {
 
         private void letSittersCome() {
             int comers = plan.comersOn(front.tick, terms.absent);
+            for (int place = 0; place < plan.placeCount && comers > 0; place++) {
+                weigh(place);
+            }
             for (int k = 0; k < comers; k++) {
                 int place = dearestPlace();
                 if (place == NONE) {
@@ -1515,23 +1520,24 @@ public final class SkyChairs {
                     return;
                 }
                 front.seatOne(place, front.tick + stayAt(place));
+                // What a place is worth hangs on no other place.
+                weigh(place);
+            }
+        }
+
+        private void weigh(int place) {
+            if (front.out[place] > 0) {
+                long worth = plan.hasLaw(LAW_SIT) ? valueOf(LAW_SIT, place) : plan.view[place];
+                worths[place] = worth == ERROR ? 0 : worth;
             }
         }
 
         private int dearestPlace() {
-            boolean byLaw = plan.hasLaw(LAW_SIT);
             int dearest = NONE;
-            long most = 0;
             for (int place = 0; place < plan.placeCount; place++) {
-                if (front.out[place] > 0 && place != terms.shut) {
-                    long worth = byLaw ? valueOf(LAW_SIT, place) : plan.view[place];
-                    if (worth == ERROR) {
-                        worth = 0;
-                    }
-                    if (dearest == NONE || worth > most) {
-                        dearest = place;
-                        most = worth;
-                    }
+                boolean open = front.out[place] > 0 && place != terms.shut;
+                if (open && (dearest == NONE || worths[place] > worths[dearest])) {
+                    dearest = place;
                 }
             }
             return dearest;
