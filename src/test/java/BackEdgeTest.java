@@ -11,6 +11,7 @@ public final class BackEdgeTest {
         whatCanBeUndone();
         latestFirst();
         twentyAtMost();
+        twentyOfEachKind();
         noTickSince();
         backRefused();
         backIsAsThen();
@@ -131,14 +132,15 @@ public final class BackEdgeTest {
         holds(34, "all stacked", x.count(9), 5);
         holds(31, "none", x.undo(), NONE);
         // A route that is undone goes on with its own turn, not from its first place.
-        SkyChairs y = Check.told("place a 2 1;place b 1 1;chairs 2;come 1 1;law stay 1;price 7;");
+        SkyChairs y = Check.told("place a 2 1;place b 1 1;chairs 2;come 2 1;law stay 1;price 7;");
         y.put(0, 1);
+        y.ticks(1);
         y.route(2, 0x01);
         y.ticks(1);
         y.route(2, 0x01);
-        holds(15, "told anew: b on tick 1", y.run(1), 0);
+        holds(15, "told anew: b on tick 2", y.run(1), 0);
         y.undo();
-        holds(31, "undone: a on tick 1", y.run(1), 7);
+        holds(31, "undone: a on tick 2", y.run(1), 7);
     }
 
     private static void twentyAtMost() {
@@ -168,6 +170,53 @@ public final class BackEdgeTest {
         undoAll(y);
         holds(31, "the first put was one too many", y.place(0, 3), 1);
         holds(31, "the route was not", y.second(0), Edge.NO);
+    }
+
+    /** A front on whose last tick a route of three goes on; then so many deeds of all kinds. */
+    private static SkyChairs done(int deeds) {
+        SkyChairs x = Check.told("place a 3 1;place b 2 1;place c 1 1;chairs 40;carry 40;law stay 1;law sit 0-taken;come 4 6;come 5 6;come 6 6;");
+        x.put(0, 4);
+        x.put(1, 4);
+        x.put(2, 4);
+        x.ticks(2);
+        x.route(3, 0x012);
+        x.ticks(2);
+        for (int i = 0; i < deeds; i++) {
+            if (i % 3 == 2) {
+                x.route(1 + i % 4, 0x2101021L >> 4 * (i % 4));
+            } else if (i % 3 == 1) {
+                x.bring(i % 7 % 3, 1);
+            } else {
+                x.put(i % 5 % 3, 2 - i % 2);
+            }
+        }
+        return x;
+    }
+
+    private static String front(SkyChairs x) {
+        StringBuilder front = new StringBuilder();
+        for (int chair = 0; chair < 40; chair++) {
+            front.append(x.look(chair, 1)).append(' ');
+        }
+        for (int n = 0; n < 6; n++) {
+            front.append(x.run(n)).append(' ').append(x.second(n)).append(' ');
+        }
+        return front.toString();
+    }
+
+    private static void twentyOfEachKind() {
+        for (int deeds = 18; deeds <= 30; deeds++) {
+            SkyChairs x = done(deeds);
+            int left = Math.min(20, deeds);
+            holds(34, "20 at most, of all kinds", x.count(8), left);
+            for (int i = 1; i <= left; i++) {
+                holds(31, "undone of " + deeds, x.undo(), left - i);
+                Edge.holds(31, i + " of " + deeds + " are undone: as ahead of them", front(x).equals(front(done(deeds - i))), true);
+            }
+            holds(31, "no more of " + deeds, x.undo(), NONE);
+            int carried = 40 - done(deeds - left).put(0, 40);
+            holds(31, "what was carried is given back", 40 - x.put(0, 40), carried);
+        }
     }
 
     private static void noTickSince() {

@@ -16,9 +16,9 @@ final class Edge {
     static final int NO_CHAIR = -1000;
     static final int NO_WHAT = -1001;
 
-    private static final String BUSY = "place a 5 3;place b 9 7 tide 30;chairs 9;come 0 2;come 4 3;come 9 2;sky 2 2;sky 3 1;"
-            + "sky 8 0;sky 40 2;band a 0 20;price 3;wage 2;carry 7;wets 2;canvas 4;seed 77;sign s;sign t;"
-            + "law sit view+music*3-taken*2;law stay 6;law dodge 40;";
+    private static final String BUSY = "place a 5 3;place b 9 7 tide 30;chairs 9;come 0 2;come 4 5;come 9 20;sky 2 2;sky 3 1;"
+            + "sky 8 0;sky 40 2;band a 0 20;price 3;wage 2;carry 7;wets 2;canvas 4;seed 12;sign s;sign t;"
+            + "law sit view+music*3-taken*2;law stay 6;law dodge 60;";
 
     /** A call, or a row of calls, with its answer. */
     interface Call {

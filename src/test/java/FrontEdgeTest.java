@@ -41,6 +41,7 @@ public final class FrontEdgeTest {
         boyGoesRound();
         dodge();
         numbers();
+        fortyChairs();
         sumRefused();
         sums();
         Check.end();
@@ -134,6 +135,14 @@ public final class FrontEdgeTest {
         holds(7, "none out, for all are sat in", x.place(1, 3), 0);
         holds(7, "all sat in", x.place(1, 4), 40);
         holds(7, "none at the other", x.place(0, 4), 0);
+        SkyChairs y = after("place a 1 1 tide 9;chairs 3;come 0 2;come 3 3;come 7 1;sky 5 2;sky 6 0;law stay 2;", 3, 0);
+        int[] out = {3, 1, 1, 3, 0, 0, 3, 3, 2, 2, 0};
+        int[] sat = {0, 2, 2, 0, 3, 3, 0, 0, 1, 1, 0};
+        for (int tick = 0; tick < out.length; tick++) {
+            holds(7, "out, as they come and go, by their time, the rain, the tide: " + tick, y.place(0, 3), out[tick]);
+            holds(7, "sat in, as they come and go: " + tick, y.place(0, 4), sat[tick]);
+            y.ticks(1);
+        }
     }
 
     // ---- Promise 8
@@ -615,9 +624,9 @@ public final class FrontEdgeTest {
         x.ticks(1);
         holds(13, "only where a chair is out", x.place(0, 4), 1);
         holds(13, "the other is on the wall", x.sum(4), 1);
-        SkyChairs y = Check.told("place a 5 1;place b 4 1;chairs 4;come 0 3;law sit view-taken*2;");
-        y.put(0, 2);
-        y.put(1, 2);
+        SkyChairs y = Check.told("place a 5 1;place b 4 1;chairs 6;come 0 3;law sit view-taken*2;");
+        y.put(0, 3);
+        y.put(1, 3);
         y.ticks(1);
         holds(13, "one by one: the law sees who sat ahead", y.place(0, 4), 2);
         holds(13, "one of them at the other", y.place(1, 4), 1);
@@ -733,6 +742,36 @@ public final class FrontEdgeTest {
         for (int chair = 20; chair < 25; chair++) {
             holds(13, "a number each, where nobody can dodge, too", z.look(chair, 4), all[chair] ? 1 : 0);
         }
+    }
+
+    /** As many chairs as there may be, through all that happens to them. */
+    private static void fortyChairs() {
+        SkyChairs x = Check.told("place a 1 1;place b 1 1 tide 6;chairs 40;carry 40;wets 1;come 0 20;come 0 18;sky 3 2;law stay 2;");
+        holds(10, "39 of 40", x.put(0, 39), 39);
+        holds(11, "no more than carry", x.bring(0, 40), 1);
+        holds(31, "one out again", x.undo(), 1);
+        x.route(1, 0);
+        x.ticks(1);
+        holds(13, "38 pay", x.sum(1), 38);
+        holds(10, "the last one", x.put(1, 40), 1);
+        holds(11, "the one that is out", x.bring(0, 40), 1);
+        x.ticks(2);
+        holds(13, "all have gone", x.place(0, 3), 38);
+        holds(11, "all that are out", x.bring(0, 40), 38);
+        holds(10, "all but one", x.put(0, 40), 2);
+        x.undo();
+        x.undo();
+        x.ticks(1);
+        sumsAre(13, "rotten by the rain", x, 76, 38, 0, 0, 0, 39, 39, 76 - 195);
+        holds(10, "the only one that is stacked", x.put(1, 40), 1);
+        x.undo();
+        holds(17, "none is out to be brought in", x.when(1, 1), 76 - 195);
+        SkyChairs y = after("place a 1 1 tide 5;chairs 40;carry 40;", 40, 1);
+        holds(17, "forty brought in", y.when(9, 1), 0);
+        y.ticks(5);
+        holds(13, "forty lost by the tide", y.sum(5), 40);
+        holds(11, "none to bring", y.bring(0, 40), 0);
+        holds(10, "none to put", y.put(0, 40), 0);
     }
 
     // ---- Promise 14

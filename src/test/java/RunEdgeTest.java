@@ -33,6 +33,7 @@ public final class RunEdgeTest {
         triedRefused();
         triedRainAndWets();
         triedOthers();
+        triedAndThenAsItIs();
         chanceRefused();
         chanceEdges();
         Check.end();
@@ -433,6 +434,42 @@ public final class RunEdgeTest {
         holds(29, "3 who sits there already stays", y.tried(3, 0, 1), 10);
         SkyChairs z = walked("place a 9 1;chairs 1;price 10;come 0 1;law dodge 0-5;", 1, 1, 0);
         holds(29, "2 where nobody dodges", z.tried(2, 0, 1), 10);
+    }
+
+    /** On a front where each trial has another balance, none of it is left for the run behind it. */
+    private static void triedAndThenAsItIs() {
+        SkyChairs x = Check.told("place a 9 1;place b 5 1;chairs 9;price 10;wets 1;canvas 3;come 0 2;come 2 2;sky 1 2;sky 2 0;band a 2 2;"
+                + "law stay 1;law dodge music*100;law sit view-music*9;");
+        x.put(0, 2);
+        x.put(1, 1);
+        x.ticks(1);
+        x.put(1, 2);
+        x.route(1, 0);
+        for (int start = 0; start < 2; start++) {
+            int run = x.run(3);
+            for (int what = 0; what < 6; what++) {
+                x.tried(what, what == 5 ? 1 : 0, 3);
+                holds(15, "as it is, behind tried " + what, x.run(3), run);
+                x.tried(what, what == 5 ? 1 : 0, 3);
+                holds(18, "nor in a way, behind tried " + what, x.way(3, 0), start == 0 ? 0 : 10);
+            }
+            x.best(3, 0);
+            holds(15, "as it is, behind best", x.run(3), run);
+            x.when(3, 0);
+            holds(15, "as it is, behind when", x.run(3), run);
+            x.second(3);
+            holds(15, "as it is, behind second", x.run(3), run);
+            x.chance(9, 3, 0);
+            holds(15, "as it is, behind chance", x.run(3), run);
+            x.many(0, 3, 0);
+            holds(15, "as it is, behind many", x.run(3), run);
+            if (start == 0) {
+                // Behind the rain there are chairs to sit on.
+                x.ticks(1);
+                x.put(0, 1);
+                x.put(1, 1);
+            }
+        }
     }
 
     // ---- Promise 30

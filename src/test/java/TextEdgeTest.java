@@ -17,6 +17,8 @@ public final class TextEdgeTest {
         bytesOfATape();
         lengthOfAText();
         textThatIsGood();
+        textBeginsAnew();
+        fullTextsAgain();
         textWithAFault();
         emptyTexts();
         wordsOfALanguage();
@@ -159,6 +161,12 @@ public final class TextEdgeTest {
         holds(3, "n ends the text within a line", cut("sign abc;", 8), NONE);
         holds(3, "n ends the text right behind a line", cut("sign abc;x", 9), 1);
         holds(3, "n ends a word", cut("sign abcdefg;", 11), NONE);
+        holds(4, "n ends a word of six letters, with a seventh behind n", cutFault("sign abcdefg;", 11), 11);
+        holds(4, "n ends a number, with a digit behind n", cutFault("price 123;", 8), 8);
+        holds(4, "n ends a number, too large with the digit behind n", cutFault("price 99999;", 8), 8);
+        holds(3, "the tape ends with a digit", fullOf("            price 10").text(700), NONE);
+        holds(3, "the tape ends with a letter", fullOf("            sign abc").text(700), NONE);
+        holds(3, "the tape ends with <", fullOf("           law sit 1<").text(700), NONE);
     }
 
     private static int cut(String text, int n) {
@@ -183,6 +191,61 @@ public final class TextEdgeTest {
         x.day(1, true);
         holds(3, "all known, also those to come", x.right(0), 1);
         holds(3, "none of the numbers was taken", x.chance(1, 3, 0), 10);
+    }
+
+    private static void textBeginsAnew() {
+        String text = "place a 1 1;chairs 9;carry 3;sign s;";
+        SkyChairs x = Check.told(text);
+        x.known(0);
+        x.put(0, 3);
+        Check.tell(x, text);
+        holds(3, "carry anew", x.put(0, 40), 3);
+        x.day(1, true);
+        x.day(1, true);
+        holds(3, "all known, though it was known by 0", x.right(0), 2);
+        holds(3, "by how many: all", x.count(7), 2);
+        x.known(1);
+        Check.tell(x, text);
+        x.day(1, true);
+        x.day(1, true);
+        holds(3, "all known, though it was known by 1", x.right(0), 2);
+    }
+
+    /** As much as a text may hold of each kind. */
+    private static String fullText() {
+        StringBuilder text = new StringBuilder();
+        for (int i = 0; i < 16; i++) {
+            text.append(i < 5 ? "place " + (char) ('a' + i) + " 9 9;" : "").append(i < 4 ? "sign " + (char) ('p' + i) + ";" : "");
+            text.append(i < 2 ? "band a 1 1;" : "").append(i < 12 ? "sky " + i + " 1;" : "").append("come ").append(i).append(" 1;");
+        }
+        text.append("chairs 9;price 1;wage 1;carry 1;wets 1;canvas 1;seed 1;law sit 9").append("+1".repeat(30)).append(";law stay 1;");
+        return text.append("law dodge not 0;").toString();
+    }
+
+    private static void fullTextsAgain() {
+        String full = fullText();
+        int lines = full.length() - full.replace(";", "").length();
+        SkyChairs x = new SkyChairs();
+        for (int i = 0; i < 4; i++) {
+            holds(3, "a full text, told for the " + i + "th time", Check.tell(x, full), lines);
+            holds(34, "its knots", x.count(4), 64);
+            holds(9, "its first law", x.law(0, 0), 39);
+        }
+        // Cut anywhere it has a fault; nothing of what was read is left for the text that comes then.
+        for (int length = 1; length < full.length(); length += 3) {
+            Check.tell(x, full.substring(0, length));
+            holds(3, "a full text behind one of " + length, Check.tell(x, full), lines);
+            holds(9, "its last law behind one of " + length, x.law(2, 0), 1);
+            x = length % 90 == 1 ? new SkyChairs() : x;
+        }
+        String brackets = "place a 1 1;law sit ((((((((2))))))))*3;";
+        for (String faulty : new String[] {"law sit ((((((((", "law sit not (1 + 2 * (", "law sit 1 or 2 and 3 < 4 + 5 *", "law stay (1 < 2 <"}) {
+            SkyChairs y = Check.told(brackets);
+            holds(4, "a fault within a law", Check.tell(y, faulty), NONE);
+            holds(9, "a fault within a law leaves the law", y.law(0, 0), 6);
+            holds(3, "nothing of it is left", Check.tell(y, brackets), 2);
+            holds(9, "nothing of it is left in a law", y.law(0, 0), 6);
+        }
     }
 
     private static SkyChairs toldOn(SkyChairs x, String text) {
